@@ -8,12 +8,15 @@ public final class ModelTest {
     private static final int[] ODD = {-1, 0, 1, 7, 8, 39, 40, 79, 80, 127, 128, 129, 255, 256, 299, 300, 16384, -128, -129,
         32768, 8388608, Integer.MAX_VALUE, Integer.MIN_VALUE, 268435456, 0x30, 0x130};
 
+    private static final int MOST_FED = 20;
+    private static final int MOST_CALLS_AT_ONCE = MOST_FED + 2;
+
     public static void main(String[] args) {
         smallRows();
         for (int seed = 0; seed < 4000; seed++) {
             treeRows(new Random(seed));
         }
-        for (int seed = 0; seed < 1500; seed++) {
+        for (int seed = 0; seed < 2500; seed++) {
             anyCalls(new Random(seed), seed % 3);
         }
         Check.finish();
@@ -108,7 +111,15 @@ public final class ModelTest {
         }
     }
 
-    private static void compareRow(int[] row, boolean wide) {
+    /** Some of the nodes, or all of them; each object is asked about a few alone, for it is promised to work for 512 calls. */
+    private static void compareRow(int[] row, boolean allNodes) {
+        int nodes = compareNodes(row, 0, 4);
+        for (int from = 4; allNodes && from < nodes; from += 16) {
+            compareNodes(row, from, from + 16);
+        }
+    }
+
+    private static int compareNodes(int[] row, int from, int to) {
         DerDesk desk = new DerDesk();
         PlainDesk plain = new PlainDesk();
         for (int b : row) {
@@ -119,7 +130,7 @@ public final class ModelTest {
         Check.due("parse() of " + name, plain.parse(), desk.parse());
         Check.due("offence() of " + name, plain.offence(), desk.offence());
         Check.due("nodeCount() of " + name, plain.nodeCount(), desk.nodeCount());
-        for (int node = 0; node < plain.nodeCount() && (wide || node < 4); node++) {
+        for (int node = from; node < plain.nodeCount() && node < to; node++) {
             Check.due("tagOf(" + node + ") of " + name, plain.tagOf(node), desk.tagOf(node));
             Check.due("contentAt(" + node + ") of " + name, plain.contentAt(node), desk.contentAt(node));
             Check.due("contentLen(" + node + ") of " + name, plain.contentLen(node), desk.contentLen(node));
@@ -130,26 +141,29 @@ public final class ModelTest {
                 Check.due("oidArc(" + node + ", " + k + ") of " + name, plain.oidArc(node, k), desk.oidArc(node, k));
             }
         }
+        return plain.nodeCount();
     }
 
     /**
-     * Calls of any kind; a leaning of 1 reads more than it writes, one of 2 writes more than it reads. Some runs go past
-     * the 512th call, up to which an object is promised to work: DerDesk has no count of calls that could run out.
+     * Calls of any kind; a leaning of 1 reads more than it writes, one of 2 writes more than it reads. A run ends before the
+     * 512th call, up to which an object is promised to work.
      */
     private static void anyCalls(Random random, int leaning) {
         DerDesk desk = new DerDesk();
         PlainDesk plain = new PlainDesk();
-        for (int call = 0; call < 512; call++) {
+        int calls = 0;
+        while (calls < 512 - 2 * MOST_CALLS_AT_ONCE) {
             int kind = random.nextInt(22);
             if (leaning > 0 && random.nextInt(4) > 0) {
                 kind = leaning == 1 ? random.nextInt(2) : 12 + random.nextInt(6);
             }
             boolean rare = kind == 11 || kind == 20;
             if (!rare || random.nextInt(12) == 0) {
-                oneCall(random, desk, plain, kind);
+                calls += kind == 1 ? feedValue(random, desk, plain) : oneCall(random, desk, plain, kind);
             }
         }
-        for (int i = -1; i <= plain.outSize(); i++) {
+        for (int look = 0; look < MOST_CALLS_AT_ONCE; look++) {
+            int i = random.nextInt(plain.outSize() + 1);
             Check.due("out(" + i + ")", plain.out(i), desk.out(i));
         }
     }
@@ -166,14 +180,14 @@ public final class ModelTest {
         return random.nextInt(8) == 0 ? argument(random) : random.nextInt(3) == 0 ? 0x30 : TAGS[random.nextInt(TAGS.length)];
     }
 
-    private static void oneCall(Random random, DerDesk desk, PlainDesk plain, int kind) {
+    /** Tells how many calls it has made, at most. */
+    private static int oneCall(Random random, DerDesk desk, PlainDesk plain, int kind) {
         int v = argument(random);
         int node = node(random);
         int tag = tag(random);
         int any = random.nextInt();
         switch (kind) {
             case 0 -> Check.due("feed(" + tag + ")", plain.feed(tag), desk.feed(tag));
-            case 1 -> feedValue(random, desk, plain);
             case 2 -> Check.due("parse()", plain.parse(), desk.parse());
             case 3 -> Check.due("offence()", plain.offence(), desk.offence());
             case 4 -> Check.due("nodeCount()", plain.nodeCount(), desk.nodeCount());
@@ -208,19 +222,23 @@ public final class ModelTest {
                 Check.due("intValue(" + node + ")", plain.intValue(node), desk.intValue(node));
             }
         }
+        return kind == 21 ? 2 : 1;
     }
 
-    private static void feedValue(Random random, DerDesk desk, PlainDesk plain) {
+    /** A wipe perhaps, up to MOST_FED bytes of a value, and a parse perhaps; tells how many calls it has made, at most. */
+    private static int feedValue(Random random, DerDesk desk, PlainDesk plain) {
         List<Integer> value = value(random, 14);
         if (random.nextInt(3) == 0) {
             desk.wipe();
             plain.wipe();
         }
-        for (int b : value.subList(0, Math.min(value.size(), 20))) {
+        List<Integer> fed = value.subList(0, Math.min(value.size(), MOST_FED));
+        for (int b : fed) {
             Check.due("feed(" + b + ")", plain.feed(b), desk.feed(b));
         }
         if (random.nextInt(3) > 0) {
             Check.due("parse()", plain.parse(), desk.parse());
         }
+        return fed.size() + 2;
     }
 }
