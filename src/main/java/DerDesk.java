@@ -192,6 +192,8 @@ public final class DerDesk {
         private static final int BYTES_BEHIND = -6;
         private static final int TOO_MUCH = -7;
 
+        private static final int LARGEST_ARC = 2147483647;
+
         // Far above every arc that fits, and far below where seven bits more would leave a long.
         private static final long HUGE_PART = 1L << 40;
 
@@ -392,7 +394,7 @@ public final class DerDesk {
                 int firstArc = firstArcOf(part);
                 arc = k == 0 ? firstArc : part - 40 * firstArc;
             }
-            return arc > Integer.MAX_VALUE ? -2 : (int) arc;
+            return arc > LARGEST_ARC ? -2 : (int) arc;
         }
 
         private static int firstArcOf(long part) {

@@ -89,7 +89,7 @@ public final class FaceTest {
     private static void textKeepsToTheLanguage() throws IOException {
         String text = Files.readString(Path.of("src/main/java/DerDesk.java"));
         String[] forbidden = {"import ", "package ", "throw ", "try ", "catch ", "finally", "->", "::",
-            "synchronized", "assert ", "Exact(", "System.", "Arrays.", "native ", "protected "};
+            "synchronized", "assert ", "Exact(", "System.", "Arrays.", "Integer.", "Long.", "native ", "protected "};
         for (String word : forbidden) {
             Check.due("the text has '" + word + "'", false, text.contains(word));
         }
